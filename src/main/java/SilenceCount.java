@@ -119,7 +119,7 @@ public final class SilenceCount {
     }
 
     public int done() {
-        if (!hoursCanBe()) {
+        if (!hours.follow(pad, house)) {
             return NO;
         }
         house.copyFrom(hours.house);
@@ -141,26 +141,21 @@ public final class SilenceCount {
         if (!isWithin(what, 0, 1)) {
             return OUTSIDE;
         }
-        return hoursCanBe() ? hours.house.tell(monk, what) : NO;
+        return hours.follow(pad, house) ? hours.house.tell(monk, what) : NO;
     }
 
     public int breaths(int what) {
         if (!isWithin(what, 0, 1)) {
             return OUTSIDE;
         }
-        if (!hoursCanBe()) {
+        if (!hours.follow(pad, house)) {
             return NO;
         }
         return what == 0 ? hours.breathsSoFar : hours.breathOfFirstNought;
     }
 
     public int noticed() {
-        return hoursCanBe() ? hours.firstNoticed : NO;
-    }
-
-    private boolean hoursCanBe() {
-        hours.follow(pad, house);
-        return hours.canBe();
+        return hours.follow(pad, house) ? hours.firstNoticed : NO;
     }
 
     public int ahead() {
@@ -400,7 +395,7 @@ public final class SilenceCount {
     }
 
     private static boolean isMonk(int monk) {
-        return isWithin(monk, 0, MONKS - 1);
+        return monk >= 0 && monk < MONKS;
     }
 
     private static boolean isLaw(int law) {
@@ -426,11 +421,11 @@ public final class SilenceCount {
         }
 
         boolean isThere(int monk) {
-            return isMonk(monk) && (there & 1 << monk) != 0;
+            return monk >= 0 && monk < MONKS && (there & 1 << monk) != 0;
         }
 
         boolean isAwake(int monk) {
-            return isMonk(monk) && (awake & 1 << monk) != 0;
+            return monk >= 0 && monk < MONKS && (awake & 1 << monk) != 0;
         }
 
         void settle(int monk, int count, int pace) {
@@ -452,15 +447,7 @@ public final class SilenceCount {
             return isAwake(monk) ? 1 : 0;
         }
 
-        /** Does the act if it can be; answers the reason why it can not be, or 0. */
-        int tryAct(int monk, int sign) {
-            int why = whyNot(monk, sign);
-            if (why == 0) {
-                act(monk, sign);
-            }
-            return why;
-        }
-
+        /** The reason why an act can not be; 0 if it can. */
         int whyNot(int monk, int sign) {
             if (monk == NOBODY) {
                 return awake == 0 ? 5 : 0;
@@ -487,7 +474,8 @@ public final class SilenceCount {
             return isAwake(monk) && isAwake(other) ? 0 : 3;
         }
 
-        private void act(int monk, int sign) {
+        /** Only of acts that can be: whyNot has looked at the monks. */
+        void act(int monk, int sign) {
             switch (sign) {
                 case BREATH:
                     breathe(1);
@@ -515,7 +503,7 @@ public final class SilenceCount {
             }
         }
 
-        private void breathe(int breaths) {
+        void breathe(int breaths) {
             for (int monk = 0; monk < MONKS; monk++) {
                 if (isAwake(monk)) {
                     counts[monk] = countBehind(monk, 0, breaths);
@@ -716,15 +704,13 @@ public final class SilenceCount {
         int breathOfFirstNought;
         int firstNoticed;
 
-        void follow(Pad pad, House from) {
+        /** Answers whether they can be, every one. */
+        boolean follow(Pad pad, House from) {
             hasFault = pad.readActs() != NONE;
             begin(from);
             for (int act = 0; act < pad.acts && !hasFault && wrongAct == NONE; act++) {
                 pass(act, pad.actMonks[act], pad.actSigns[act]);
             }
-        }
-
-        boolean canBe() {
             return !hasFault && wrongAct == NONE;
         }
 
@@ -747,7 +733,7 @@ public final class SilenceCount {
             if (sign == BREATH || sign == TEN_BREATHS) {
                 passBreaths(sign == BREATH ? 1 : 10);
             } else {
-                house.tryAct(monk, sign);
+                house.act(monk, sign);
             }
             if (firstNoticed == NONE && house.spread() > house.sharp) {
                 firstNoticed = act;
@@ -757,7 +743,7 @@ public final class SilenceCount {
         /** One by one, as somebody may be at 0 in the midst of ten. */
         private void passBreaths(int breaths) {
             for (int i = 0; i < breaths; i++) {
-                house.tryAct(NOBODY, BREATH);
+                house.breathe(1);
                 breathsSoFar++;
                 if (breathOfFirstNought == NONE && house.atNought() != 0) {
                     breathOfFirstNought = breathsSoFar;
@@ -900,8 +886,8 @@ public final class SilenceCount {
 
         private static int countPowers(int from, int to) {
             int many = 0;
-            for (int power = 1; power <= to; power *= 2) {
-                if (power >= from) {
+            for (int power = 1; power <= LARGEST_BOW; power *= 2) {
+                if (isWithin(power, from, to)) {
                     many++;
                 }
             }
@@ -910,8 +896,8 @@ public final class SilenceCount {
 
         private static int greatestPowerUpTo(int v) {
             int greatest = 0;
-            for (int power = 1; power <= v && power <= HIGHEST; power *= 2) {
-                greatest = power;
+            for (int power = 1; power <= HIGHEST; power *= 2) {
+                greatest = power <= v ? power : greatest;
             }
             return greatest;
         }
@@ -1129,10 +1115,16 @@ public final class SilenceCount {
             for (int act = 0; act < acts; act++) {
                 x = (75 * x + 74) % 65537;
                 int before = house.atNought();
-                house.tryAct(monkDrawn(x), signDrawn(x));
+                passAct(monkDrawn(x), signDrawn(x));
                 if ((house.atNought() & ~before) != 0) {
                     actsToNought++;
                 }
+            }
+        }
+
+        private void passAct(int monk, int sign) {
+            if (house.whyNot(monk, sign) == 0) {
+                house.act(monk, sign);
             }
         }
 

@@ -110,16 +110,21 @@ public final class FaceTest {
                 holds(method + " has seven parameters at most", method.getParameterCount() <= 7);
             }
         }
-        int start = 0;
-        List<String> lines = Files.readAllLines(SOURCE, StandardCharsets.ISO_8859_1);
+        methodLengths(Files.readAllLines(SOURCE, StandardCharsets.ISO_8859_1));
+    }
+
+    private static void methodLengths(List<String> lines) {
+        Pattern head = Pattern.compile("( {4}| {8})(?!if|for|switch|while|\\})\\S.*\\) \\{");
+        int methods = 0;
         for (int i = 0; i < lines.size(); i++) {
-            if (lines.get(i).matches(" {4,8}[a-zA-Z].*\\) \\{")) {
-                start = i;
-            }
-            if (lines.get(i).matches(" {4,8}\\}")) {
-                holds("a method of sixty lines at most at line " + (start + 1), i - start <= 60 || start == 0);
+            Matcher found = head.matcher(lines.get(i));
+            if (found.matches()) {
+                int length = lines.subList(i, lines.size()).indexOf(found.group(1) + "}");
+                holds("a method of sixty lines at most at line " + (i + 1), length > 0 && length <= 60);
+                methods++;
             }
         }
+        holds("methods were found: " + methods, methods >= FACE.size());
     }
 
     private static void text(String source) {
