@@ -49,7 +49,8 @@ public final class FaceTest {
         Set<String> methods = new TreeSet<>();
         for (Method method : face.getDeclaredMethods()) {
             if (!Modifier.isPrivate(method.getModifiers())) {
-                String types = String.join(", ", Arrays.stream(method.getParameterTypes()).map(Class::getName).toList());
+                List<String> names = Arrays.stream(method.getParameterTypes()).map(Class::getName).toList();
+                String types = String.join(", ", names);
                 methods.add(method.getReturnType().getName() + " " + method.getName() + "(" + types + ")");
                 holds(method + " is public alone", (method.getModifiers() & ~Modifier.FINAL) == Modifier.PUBLIC);
             }

@@ -192,7 +192,8 @@ public final class Promises24To32Test {
     }
 
     private static void promise28AllOutcomes() {
-        int[][] cases = {{1, 1, 1}, {1, 0, 9}, {5, 5, 2}, {7, 3, 9}, {40, 33, 4}, {1000000, 77, 9}, {1000000, 1000000, 1}};
+        int[][] cases = {{1, 1, 1}, {1, 0, 9}, {5, 5, 2}, {7, 3, 9}, {40, 33, 4}, {1000000, 77, 9},
+            {1000000, 1000000, 1}};
         for (int[] c : cases) {
             SilenceCount house = new SilenceCount();
             house.set(0, c[0]);
