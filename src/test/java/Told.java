@@ -18,6 +18,27 @@ final class Told {
         return text.toString();
     }
 
+    /** All that and what the calls answer that only look; then what DONE, and each IMAGE, make of it. */
+    static String toTheEnd(SilenceCount house) {
+        StringBuilder text = new StringBuilder(all(house));
+        for (int monk = 0; monk < 8; monk++) {
+            text.append(' ').append(house.behind(monk, 0)).append('/').append(house.behind(monk, 1));
+            text.append('/').append(house.ends(monk));
+        }
+        text.append(" breaths ").append(house.breaths(0)).append('/').append(house.breaths(1));
+        text.append(" noticed ").append(house.noticed());
+        for (int law = 0; law < 5; law++) {
+            text.append(" ask ").append(house.ask(law, 0, 0)).append('/').append(house.ask(law, 2, 1));
+        }
+        text.append(" year ").append(house.year(4711, 99, 0));
+        text.append(" done ").append(house.done()).append(": ").append(all(house));
+        text.append(" wiped ").append(house.wipe());
+        for (int image = 0; image < 2; image++) {
+            text.append(" image ").append(house.restore(image)).append(": ").append(all(house));
+        }
+        return text.toString();
+    }
+
     static void say(SilenceCount house, String signs) {
         for (int i = 0; i < signs.length(); i++) {
             Due.is("say " + signs.charAt(i), house.say(signs.charAt(i)), house.told(0));
