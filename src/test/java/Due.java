@@ -1,5 +1,3 @@
-import java.util.function.LongSupplier;
-
 /** Counts answers that are as due, and tells those that are not. */
 final class Due {
     private static int right = 0;
@@ -19,14 +17,6 @@ final class Due {
 
     static void isTrue(String what, boolean holds) {
         is(what, holds ? 1 : 0, 1);
-    }
-
-    /** A refused call answers so and changes nothing that can be told. */
-    static void refused(String call, SilenceCount house, LongSupplier made, long want) {
-        String before = Told.all(house);
-        is(call, made.getAsLong(), want);
-        String after = Told.all(house);
-        isTrue(call + " changed " + before + " to " + after, before.equals(after));
     }
 
     static void close() {

@@ -163,7 +163,7 @@ public final class Edges01To16Test {
         Sentence.of(3, "A MONK is no more: how many are", () -> Houses.of(5, 5))
             .answers("the last", house -> house.leave(0), 0)
             .answers("then nobody is there", house -> house.leave(0) + house.told(1) + house.told(2), 0);
-        Sentence.of(3, "A MONK is no more: how many are", () -> Houses.of(1, 1, 1, 1, 1, 1, 1, 1, 1, 1, 1, 1, 1, 1, 1, 1))
+        Sentence.of(3, "A MONK is no more: how many are", () -> Houses.eightAt(1))
             .answers("of eight", house -> house.leave(7), 7)
             .answers("of eight, who is left", house -> house.leave(7) * 1000 + house.told(1), 7127);
     }
@@ -441,7 +441,8 @@ public final class Edges01To16Test {
         Sentence.of(12, "BREATHS of HOURS: how many", () -> Houses.saying(".", 5, 1))
             .answers("one", house -> house.breaths(0), 1);
         Sentence.of(12, "BREATHS of HOURS: how many", () -> Houses.saying(":".repeat(60), 5, 1))
-            .answers("600", house -> house.breaths(0), 600);
+            .answers("600", house -> house.breaths(0), 600)
+            .answers("600, asked again", house -> house.breaths(0) * 0 + house.breaths(0), 600);
     }
 
     private static Sentence firstNought(String signs, int... countsAndPaces) {
@@ -532,7 +533,7 @@ public final class Edges01To16Test {
             .answers("one anew, at more", house -> house.monk(7, 1000000, 1) * 0 + house.ahead(), 7);
         Sentence.of(14, "of several the least", () -> Houses.of(5, 1, 4, 1, 4, 9))
             .answers("of two", house -> house.ahead(), 1);
-        Sentence.of(14, "of several the least", () -> Houses.of(0, 1, 0, 1, 0, 1, 0, 1, 0, 1, 0, 1, 0, 1, 0, 1))
+        Sentence.of(14, "of several the least", () -> Houses.eightAt(0))
             .answers("of eight, at 0", house -> house.ahead(), 0);
         Sentence.of(14, "who is AWAKE and has the least to count", () -> Houses.of(1, 1, 1, 1, 0, 1))
             .answers("at 0", house -> house.ahead(), 2);
@@ -543,6 +544,8 @@ public final class Edges01To16Test {
             .answers("nobody there", house -> house.differ(), 0);
         Sentence.of(15, "DIFFER (0: nobody is AWAKE)", Houses::asleep)
             .answers("only sleepers", house -> house.differ(), 0);
+        Sentence.of(15, "how much the greatest COUNT is more than the least", () -> Houses.of(0, 1, 0, 9))
+            .answers("all at 0", house -> house.differ(), 0);
         Sentence.of(15, "of those who are AWAKE", () -> Houses.of(1000000, 1))
             .answers("one alone", house -> house.differ(), 0);
         Sentence.of(15, "of those who are AWAKE", () -> Houses.behind("AC", 0, 1, 7, 1, 9, 1))
@@ -552,7 +555,7 @@ public final class Edges01To16Test {
     }
 
     private static void promise16Alike() {
-        Sentence.of(16, "how many (i = -1), the i-th", () -> Houses.of(3, 1, 3, 1, 3, 1, 3, 1, 3, 1, 3, 1, 3, 1, 3, 1))
+        Sentence.of(16, "how many (i = -1), the i-th", () -> Houses.eightAt(3))
             .answers("all of eight", house -> house.alike(-1), 28)
             .answers("the first", house -> house.alike(0), 1)
             .answers("the last", house -> house.alike(27), 67)
@@ -570,6 +573,9 @@ public final class Edges01To16Test {
         Sentence.of(16, "twos who are AWAKE", () -> Houses.behind("AC", 6, 1, 6, 1, 6, 1))
             .answers("a sleeper's twos", house -> house.alike(-1), 1)
             .answers("those awake", house -> house.alike(0), 12);
+        Sentence.of(16, "twos who are AWAKE", () -> Houses.behind("CA", 6, 1, 6, 1, 6, 1))
+            .answers("the greater sleeps", house -> house.alike(-1), 1)
+            .answers("those awake", house -> house.alike(0), 1);
         Sentence.of(16, "the i-th; NONE", () -> Houses.of(6, 1, 6, 1))
             .answers("i = -2", house -> house.alike(-2), NONE)
             .answers("the least", house -> house.alike(LEAST), NONE)

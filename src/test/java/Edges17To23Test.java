@@ -86,7 +86,7 @@ public final class Edges17To23Test {
 
     private static void meets(String words, int[] monks, int want) {
         Sentence.of(18, words, () -> Houses.of(monks))
-            .answers(monks[0] + " by " + monks[1] + ", " + monks[2] + " by " + monks[3], house -> house.meet(0, 1), want)
+            .answers(java.util.Arrays.toString(monks), house -> house.meet(0, 1), want)
             .answers("the other way", house -> house.meet(1, 0), want);
     }
 
@@ -225,6 +225,7 @@ public final class Edges17To23Test {
     private static void promise20AtOrBelow() {
         // A LAW, the number at which they bow below, the next one, and the next but one.
         int[][] threes = {{0, 2, 3, 5}, {0, 89, 97, 101}, {0, 999961, 999979, 999983}, {1, 1, 4, 9}, {1, 81, 100, 121},
+            {0, 23, 29, 31}, {0, 113, 127, 131}, {0, 167, 173, 179}, {1, 261121, 262144, 263169},
             {1, 996004, 998001, 1000000}, {2, 9, 11, 22}, {2, 999, 1001, 1111}, {2, 997799, 998899, 999999},
             {3, 10, 12, 18}, {3, 999984, 999990, 1000000}, {4, 1, 2, 4}, {4, 131072, 262144, 524288}};
         Sentence next = Sentence.of(20, "the next one at or below v", SilenceCount::new);
@@ -238,7 +239,9 @@ public final class Edges17To23Test {
     private static void promise20None() {
         Sentence next = Sentence.of(20, "NONE", SilenceCount::new)
             .answers("no prime at or below 1", house -> house.next(0, 1), NONE)
-            .answers("the first prime", house -> house.next(0, 2), 2);
+            .answers("the first prime", house -> house.next(0, 2), 2)
+            .answers("a prime's square is none", house -> house.next(0, 25), 23)
+            .answers("a greater prime's square is none", house -> house.next(0, 994009), 993997);
         for (int law = 1; law < 5; law++) {
             int by = law;
             next.answers("LAW " + law + " at 1", house -> house.next(by, 1), 1);

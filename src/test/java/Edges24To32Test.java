@@ -71,8 +71,8 @@ public final class Edges24To32Test {
     private static void promise24Full() {
         Sentence.of(24, "SIGHTS, 8 at most; FULL", Houses::fullSights)
             .answers("8 are there", house -> house.told(5), 8)
-            .refuses("a ninth", house -> house.seen(0, 0, true), FULL)
-            .refuses("a ninth, the same as one", house -> house.seen(0, 0, false), FULL)
+            .refuses("a ninth", house -> house.seen(0, 5, true), FULL)
+            .refuses("a ninth, the same as one", house -> house.seen(0, 0, true), FULL)
             .refuses("a ninth, behind 99", house -> house.seen(1, 99, false), FULL)
             .answers("behind forget()", house -> house.forget() + house.seen(0, 0, true), 9);
         Sentence.of(24, "A SIGHT more: how many", () -> Houses.of(5, 1))
@@ -132,7 +132,7 @@ public final class Edges24To32Test {
             worlds(Sentence.of(26, "worlds, no SIGHTS", Houses::asleep), "only sleepers", law, 1, 0, 1);
             worlds(Sentence.of(26, "worlds, no SIGHTS", () -> Houses.of(0, 1)), "one at 0", law, 10, 1, 1);
             worlds(Sentence.of(26, "worlds, no SIGHTS",
-                () -> Houses.of(9, 1, 9, 1, 9, 1, 9, 1, 9, 1, 9, 1, 9, 1, 9, 1)), "all of eight", law, 73, 255, 1);
+                () -> Houses.eightAt(9)), "all of eight", law, 73, 255, 1);
         }
     }
 
@@ -151,6 +151,8 @@ public final class Edges24To32Test {
         worlds(seenNow(words, true, 73, 1), "v 9 to a power", 4, 1, 1, 0);
         worlds(seenNow(words, true, 74, 1), "v 10 to a power", 4, 0, 0, 0);
         worlds(seenNow(words, true, 64, 1, 5, 1), "another one's skip", 4, 10, 2, 1);
+        seenNow(words, true, 64, 1, 5, 1)
+            .answers("MONKS, asked again by another LAW", house -> house.skips(4, 1) * 0 + house.skips(0, 1), 1);
     }
 
     private static void promise26NoughtAtLeast() {
@@ -461,8 +463,7 @@ public final class Edges24To32Test {
             .answers("74 is B's cough, who sleeps", house -> house.year(0, 1, 0), 20)
             .answers("how many are AWAKE", house -> house.year(0, 1, 1), 0);
         Sentence.of(29, "COUNTS of all who are there, together",
-            () -> Houses.of(1000000, 1, 1000000, 1, 1000000, 1, 1000000, 1, 1000000, 1, 1000000, 1, 1000000, 1, 1000000,
-                1))
+            () -> Houses.eightAt(1000000))
             .answers("the most", house -> house.year(0, 1, 0), 8000000)
             .answers("how many are AWAKE", house -> house.year(0, 1, 1), 8);
         Sentence.of(29, "Nothing is DONE in fact", Houses::rich)
@@ -486,9 +487,11 @@ public final class Edges24To32Test {
         // C sleeps at 30 and handed over to A, who is at 20 then, as B is.
         Sentence year = Sentence.of(29, "each if that can be", () -> Houses.behindIn(40, "CA", 10, 1, 20, 1, 30, 1));
         year.answers("as it is", house -> house.state(0, 0) + house.state(1, 0) + house.state(2, 0), 20 + 20 + 30);
-        int[][] draws = {{0, -1, -1, 72, 2}, {1, -1, -1, 90, 2}, {2, 0, -1, 73, 2}, {2, 2, -1, 70, 2}, {2, 3, -1, 70, 2},
-            {3, 0, -1, 70, 2}, {3, 2, -1, 70, 2}, {3, 7, -1, 70, 2}, {4, 0, 1, 70, 1}, {4, 0, 0, 70, 2}, {4, 0, 2, 70, 2},
-            {4, 2, 0, 70, 2}, {4, 0, 3, 70, 2}, {4, 3, 0, 70, 2}, {5, 0, -1, 70, 2}, {5, 2, -1, 70, 3}, {5, 3, -1, 70, 2},
+        int[][] draws = {{0, -1, -1, 72, 2}, {1, -1, -1, 90, 2},
+            {2, 0, -1, 73, 2}, {2, 2, -1, 70, 2}, {2, 3, -1, 70, 2},
+            {3, 0, -1, 70, 2}, {3, 2, -1, 70, 2}, {3, 7, -1, 70, 2},
+            {4, 0, 1, 70, 1}, {4, 0, 0, 70, 2}, {4, 0, 2, 70, 2}, {4, 2, 0, 70, 2}, {4, 0, 3, 70, 2}, {4, 3, 0, 70, 2},
+            {5, 0, -1, 70, 2}, {5, 2, -1, 70, 3}, {5, 3, -1, 70, 2},
             {6, -1, -1, 50, 2}, {7, -1, -1, 50, 2}};
         for (int[] d : draws) {
             int seed = seedOf(d[0], d[1], d[2]);
@@ -496,6 +499,11 @@ public final class Edges24To32Test {
             year.answers(call + ", COUNTS", house -> house.year(seed, 1, 0), d[3])
                 .answers(call + ", AWAKE", house -> house.year(seed, 1, 1), d[4]);
         }
+        Sentence.of(29, "left over by 8", () -> Houses.eightAt(50))
+            .answers("MONK 7 coughs", house -> house.leave(7) + house.year(seedOf(2, 7, -1), 1, 0), 7 + 350)
+            .answers("to MONK 7", house -> house.leave(7) + house.year(seedOf(4, 0, 7), 1, 1), 7 + 7)
+            .answers("to MONK 7, who is there", house -> house.year(seedOf(4, 0, 7), 1, 1), 7)
+            .answers("by MONK 7", house -> house.year(seedOf(4, 7, 0), 1, 1), 7);
         Sentence asleep = Sentence.of(29, "each if that can be (nobody is AWAKE)", Houses::asleep);
         for (int kind = 0; kind < 8; kind++) {
             int seed = seedOf(kind, 0, -1);
@@ -516,7 +524,8 @@ public final class Edges24To32Test {
         Sentence.of(29, words, () -> Houses.of(0, 1, 90, 9))
             .answers("one at 0 already, one then", house -> house.year(tenBreaths, 1, 2), 1);
         Sentence.of(29, words, () -> Houses.of(10, 1, 90, 9))
-            .answers("two at once: one ACT", house -> house.year(tenBreaths, 1, 2), 1);
+            .answers("two at once: one ACT", house -> house.year(tenBreaths, 1, 2), 1)
+            .answers("asked again", house -> house.year(tenBreaths, 1, 2) * 0 + house.year(tenBreaths, 1, 2), 1);
         Sentence.of(29, words, () -> Houses.of(0, 1, 1, 1))
             .answers("the middle of 0 and 1", house -> house.year(seedOf(4, 0, 1), 1, 2), 1)
             .answers("to 0 by an elbow", house -> house.year(seedOf(3, 1, -1), 1, 2), 1)
@@ -569,11 +578,27 @@ public final class Edges24To32Test {
             SilenceCount house = Houses.fullSights();
             house.image(0);
             house.forget();
+            for (int i = 0; i < 8; i++) {
+                house.seen(1, 0, false);
+            }
             house.restore(0);
             return house;
         }).answers("all of them", house -> house.told(5), 8)
             .refuses("a ninth", house -> house.seen(0, 0, false), FULL)
-            .answers("as they were", house -> house.skips(0, 0), Houses.fullSights().skips(0, 0));
+            .answers("the worlds that they leave", house -> house.skips(4, 0), 1)
+            .answers("nobody's skip", house -> house.skips(4, 2), 1);
+        Sentence.of(30, "All is kept (each of the SIGHTS)", () -> {
+            SilenceCount house = Houses.of(64, 1, 66, 1);
+            house.seen(0, 0, true);
+            house.seen(1, 2, true);
+            house.image(1);
+            house.forget();
+            house.seen(1, 0, false);
+            house.seen(1, 0, false);
+            house.restore(1);
+            return house;
+        }).answers("the worlds that they leave", house -> house.skips(4, 0), 1)
+            .answers("by another LAW", house -> house.skips(0, 0), 0);
     }
 
     private static void promise31Restore() {
@@ -583,7 +608,8 @@ public final class Edges24To32Test {
             .answers("MONK 7 is not", house -> house.restore(0) * 0 + house.state(7, 0), UNKNOWN)
             .answers("HOUSE", house -> house.restore(0) * 0 + house.told(3), 1000000)
             .answers("the PAD stays", house -> house.restore(0) * 0 + house.told(0), 5)
-            .answers("twice", house -> house.restore(0) + house.leave(0) * 0 + house.restore(0) + house.state(0, 0), 102)
+            .answers("twice", house -> house.restore(0) + house.leave(0) * 0 + house.restore(0), 2)
+            .answers("one who left since", house -> house.leave(0) * 0 + house.restore(0) + house.state(0, 0), 101)
             .refuses("restore(-1)", house -> house.restore(-1), OUTSIDE)
             .refuses("restore(2)", house -> house.restore(2), OUTSIDE)
             .refuses("the least", house -> house.restore(LEAST), OUTSIDE)

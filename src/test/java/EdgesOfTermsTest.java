@@ -125,7 +125,8 @@ public final class EdgesOfTermsTest {
     }
 
     private static void fractionsInLowestTerms() {
-        Sentence.ofTerms("in lowest terms by part: 0 the upper, 1 the lower number", () -> Houses.behindIn(10, "", 5, 1))
+        Sentence.ofTerms("in lowest terms by part: 0 the upper, 1 the lower number",
+            () -> Houses.behindIn(10, "", 5, 1))
             .answers("half at 4, half at 10, upper", house -> house.bees(1, 5, 0, 0), 7)
             .answers("half at 4, half at 10, lower", house -> house.bees(1, 5, 0, 1), 1)
             .answers("one tenth at 10, upper", house -> house.bees(1, 1, 0, 0), 23)
@@ -150,7 +151,7 @@ public final class EdgesOfTermsTest {
             .answers("nobody there", house -> house.told(1), 0)
             .answers("nobody awake", house -> house.told(2), 0)
             .answers("nobody may have skipped", house -> house.skips(0, 1), 0);
-        Sentence.ofTerms("Sets of MONKS are bits", () -> Houses.of(1, 1, 1, 1, 1, 1, 1, 1, 1, 1, 1, 1, 1, 1, 1, 1))
+        Sentence.ofTerms("Sets of MONKS are bits", () -> Houses.eightAt(1))
             .answers("all there", house -> house.told(1), 255)
             .answers("all awake", house -> house.told(2), 255)
             .answers("all may have skipped", house -> house.skips(0, 1), 255);
@@ -215,8 +216,8 @@ public final class EdgesOfTermsTest {
     }
 
     private static void beeOfTheLeast() {
-        Sentence.ofTerms("A bee: the one who is AWAKE and has the least to count", () -> Houses.behindIn(60, "AB*", 0, 1,
-            40, 1, 19, 1, 21, 1))
+        Sentence.ofTerms("A bee: the one who is AWAKE and has the least to count",
+            () -> Houses.behindIn(60, "AB*", 0, 1, 40, 1, 19, 1, 21, 1))
             .answers("a sleeper at less", house -> house.state(0, 0), 0)
             .answers("B", house -> house.state(1, 0), 20)
             .answers("the least who is awake", house -> house.state(2, 0), 60)
@@ -314,8 +315,8 @@ public final class EdgesOfTermsTest {
     }
 
     private static void elbowOfSleepers() {
-        Sentence.ofTerms("e (that most who are AWAKE are at)", () -> Houses.behind("AEBECe", 3, 1, 3, 1, 9, 1, 8, 1, 200,
-            1))
+        Sentence.ofTerms("e (that most who are AWAKE are at)",
+            () -> Houses.behind("AEBECe", 3, 1, 3, 1, 9, 1, 8, 1, 200, 1))
             .answers("sleepers do not count", house -> house.state(2, 0), 8);
     }
 

@@ -13,6 +13,15 @@ final class Houses {
         return house;
     }
 
+    /** All eight, at one number, by 1. */
+    static SilenceCount eightAt(int count) {
+        SilenceCount house = new SilenceCount();
+        for (int monk = 0; monk < 8; monk++) {
+            Due.is("monk", house.monk(monk, count, 1), monk + 1);
+        }
+        return house;
+    }
+
     static SilenceCount saying(String signs, int... countsAndPaces) {
         SilenceCount house = of(countsAndPaces);
         Told.say(house, signs);
@@ -82,11 +91,13 @@ final class Houses {
         return saying(".!".repeat(28) + "AkBA", 1000, 1, 1000, 2);
     }
 
-    /** A at 97 by 1, B at 61 by 2, and 8 SIGHTS. */
+    /** A at 64, B at 66, both by 1, and 8 SIGHTS, which by LAW 4 (powers of 2) leave one world, of nobody's skip. */
     static SilenceCount fullSights() {
-        SilenceCount house = of(97, 1, 61, 2);
+        SilenceCount house = of(64, 1, 66, 1);
+        int[] breaths = {0, 2, 1, 0, 32, 34, 2, 3};
         for (int i = 0; i < 8; i++) {
-            Due.is("seen", house.seen(i % 2, i, i < 2), i + 1);
+            boolean bowed = i < 2 || i == 4 || i == 5;
+            Due.is("seen", house.seen(i % 2, breaths[i], bowed), i + 1);
         }
         return house;
     }

@@ -2,8 +2,9 @@ import java.util.Random;
 
 /** Runs of drawn calls on fresh objects: every answer is held against PlainModel's. */
 public final class ModelRunsTest {
-    private static final int RUNS = 600;
-    private static final int CALLS = 500;
+    private static final int RUNS = 1500;
+    // An object is used for 512 calls at most, and a turn makes fewer than 30.
+    private static final int CALLS = 512 - 30;
     private static final String ACTS = "....::!*";
 
     private final Random draw;
@@ -12,6 +13,7 @@ public final class ModelRunsTest {
     private final PlainModel model = new PlainModel();
     // How far counts go in this run: small ones meet, are alike and are at 0 more often.
     private final int reach;
+    private int calls = 0;
 
     private ModelRunsTest(int run) {
         this.run = run;
@@ -30,12 +32,13 @@ public final class ModelRunsTest {
         for (int i = 0; i < 1 + run % 8; i++) {
             settle();
         }
-        for (int calls = 0; calls < CALLS; calls++) {
+        while (calls < CALLS) {
             one();
         }
     }
 
     private void same(String call, long got, long want) {
+        calls++;
         Due.is("run " + run + ": " + call, got, want);
     }
 
@@ -100,6 +103,7 @@ public final class ModelRunsTest {
             return "" + ACTS.charAt(draw.nextInt(ACTS.length()));
         }
         // Mostly of those who are there, so that many hours can be.
+        calls++;
         int there = house.told(1);
         int monk = draw.nextInt(8);
         int other = draw.nextInt(8);

@@ -39,7 +39,7 @@ public final class Promises17To23Test {
         house.leave(0);
         Due.is("only sleepers", house.ends(-1), NONE);
         for (int monk : new int[] {0, 7, 8, -2, 31, Integer.MIN_VALUE, Integer.MAX_VALUE}) {
-            Due.refused("ends of " + monk, house, () -> house.ends(monk), UNKNOWN);
+            Due.is("ends of " + monk, house.ends(monk), UNKNOWN);
         }
     }
 
@@ -67,15 +67,15 @@ public final class Promises17To23Test {
             }
         }
         SilenceCount house = Told.three();
-        Due.refused("one", house, () -> house.meet(1, 1), UNKNOWN);
-        Due.refused("not there", house, () -> house.meet(0, 3), UNKNOWN);
-        Due.refused("not there, first", house, () -> house.meet(3, 0), UNKNOWN);
-        Due.refused("no monk", house, () -> house.meet(0, 8), UNKNOWN);
-        Due.refused("no monk, first", house, () -> house.meet(-1, 0), UNKNOWN);
-        Due.refused("no monk by wrapping", house, () -> house.meet(32, 0), UNKNOWN);
+        Due.is("one", house.meet(1, 1), UNKNOWN);
+        Due.is("not there", house.meet(0, 3), UNKNOWN);
+        Due.is("not there, first", house.meet(3, 0), UNKNOWN);
+        Due.is("no monk", house.meet(0, 8), UNKNOWN);
+        Due.is("no monk, first", house.meet(-1, 0), UNKNOWN);
+        Due.is("no monk by wrapping", house.meet(32, 0), UNKNOWN);
         Told.pass(house, "AB");
-        Due.refused("who sleeps", house, () -> house.meet(1, 0), UNKNOWN);
-        Due.refused("who sleeps, first", house, () -> house.meet(0, 1), UNKNOWN);
+        Due.is("who sleeps", house.meet(1, 0), UNKNOWN);
+        Due.is("who sleeps, first", house.meet(0, 1), UNKNOWN);
     }
 
     private static void meets(int a, int paceA, int b, int paceB, int want) {
@@ -121,21 +121,20 @@ public final class Promises17To23Test {
     private static void promise19() {
         SilenceCount house = new SilenceCount();
         Due.is("the second is below the first", house.bows(1, 100, 1), 0);
-        Due.refused("law -1", house, () -> house.bows(-1, 1, 1), OUTSIDE);
-        Due.refused("law 5", house, () -> house.bows(5, 1, 1), OUTSIDE);
+        Due.is("law -1", house.bows(-1, 1, 1), OUTSIDE);
+        Due.is("law 5", house.bows(5, 1, 1), OUTSIDE);
         for (int law = 0; law < 5; law++) {
             int by = law;
-            Due.refused("from 0", house, () -> house.bows(by, 0, 1), OUTSIDE);
-            Due.refused("from 100001", house, () -> house.bows(by, 100001, 1), OUTSIDE);
-            Due.refused("to 0", house, () -> house.bows(by, 1, 0), OUTSIDE);
-            Due.refused("to 100001", house, () -> house.bows(by, 1, 100001), OUTSIDE);
-            Due.refused("from least", house, () -> house.bows(by, Integer.MIN_VALUE, 1), OUTSIDE);
-            Due.refused("to greatest", house, () -> house.bows(by, 1, Integer.MAX_VALUE), OUTSIDE);
+            Due.is("from 0", house.bows(by, 0, 1), OUTSIDE);
+            Due.is("from 100001", house.bows(by, 100001, 1), OUTSIDE);
+            Due.is("to 0", house.bows(by, 1, 0), OUTSIDE);
+            Due.is("to 100001", house.bows(by, 1, 100001), OUTSIDE);
+            Due.is("from least", house.bows(by, Integer.MIN_VALUE, 1), OUTSIDE);
+            Due.is("to greatest", house.bows(by, 1, Integer.MAX_VALUE), OUTSIDE);
         }
     }
 
     private static void promise19Counts() {
-        SilenceCount house = new SilenceCount();
         int[] edges = {1, 2, 3, 4, 10, 11, 63, 64, 65, 127, 128, 997, 9999, 10000, 10001, 65536, 99856, 99991, 99999,
             100000};
         for (int law = 0; law < 5; law++) {
@@ -144,12 +143,16 @@ public final class Promises17To23Test {
                 upTo[number] = upTo[number - 1] + (bowsAt(law, number) ? 1 : 0);
             }
             for (int from : edges) {
+                SilenceCount house = new SilenceCount();
                 for (int to : edges) {
                     int want = to < from ? 0 : upTo[to] - upTo[from - 1];
                     Due.is("bows " + law + " " + from + " " + to, house.bows(law, from, to), want);
                 }
             }
+            SilenceCount house = new SilenceCount();
             for (int number = 1; number <= 100000; number++) {
+                // An object is used for 512 calls at most.
+                house = number % 500 == 0 ? new SilenceCount() : house;
                 if (house.bows(law, number, number) != upTo[number] - upTo[number - 1]) {
                     Due.is("bows " + law + " at " + number, 0, 1);
                 }
@@ -166,20 +169,21 @@ public final class Promises17To23Test {
             Due.is("next from 1", house.next(law, 1), law == 0 ? NONE : 1);
             Due.is("next from 2", house.next(law, 2), law == 1 ? 1 : 2);
             Due.is("next from the highest", house.next(law, 1000000), highest[law]);
-            Due.refused("v -1", house, () -> house.next(by, -1), OUTSIDE);
-            Due.refused("v 1000001", house, () -> house.next(by, 1000001), OUTSIDE);
-            Due.refused("v greatest", house, () -> house.next(by, Integer.MAX_VALUE), OUTSIDE);
-            Due.refused("v least", house, () -> house.next(by, Integer.MIN_VALUE), OUTSIDE);
+            Due.is("v -1", house.next(by, -1), OUTSIDE);
+            Due.is("v 1000001", house.next(by, 1000001), OUTSIDE);
+            Due.is("v greatest", house.next(by, Integer.MAX_VALUE), OUTSIDE);
+            Due.is("v least", house.next(by, Integer.MIN_VALUE), OUTSIDE);
         }
-        Due.refused("law -1", house, () -> house.next(-1, 1), OUTSIDE);
-        Due.refused("law 5", house, () -> house.next(5, 1), OUTSIDE);
+        Due.is("law -1", house.next(-1, 1), OUTSIDE);
+        Due.is("law 5", house.next(5, 1), OUTSIDE);
     }
 
     private static void promise20Search() {
-        SilenceCount house = new SilenceCount();
         for (int law = 0; law < 5; law++) {
             int last = NONE;
+            SilenceCount house = new SilenceCount();
             for (int v = 1; v <= 1000000; v++) {
+                house = v % 500 == 0 ? new SilenceCount() : house;
                 boolean near = v < 3000 || v % 97 == 0 || v > 998000;
                 if (bowsAt(law, v)) {
                     last = v;
@@ -223,8 +227,8 @@ public final class Promises17To23Test {
         Told.pass(house, "AB");
         house.leave(1);
         elbowsAre(house, NONE, NONE);
-        Due.refused("what 2", house, () -> house.elbows(2), OUTSIDE);
-        Due.refused("what -1", house, () -> house.elbows(-1), OUTSIDE);
+        Due.is("what 2", house.elbows(2), OUTSIDE);
+        Due.is("what -1", house.elbows(-1), OUTSIDE);
     }
 
     private static void elbowsAre(SilenceCount house, int many, int number) {
@@ -249,7 +253,7 @@ public final class Promises17To23Test {
         int[][] wrong = {{0, 1, 1, 0}, {9, 1, 1, 0}, {1, 0, 1, 0}, {1, 25, 1, 0}, {1, 1, 0, 0}, {1, 1, 25, 0},
             {1, 1, 1, -1}, {1, 1, 1, 2}, {Integer.MIN_VALUE, 1, 1, 0}, {1, Integer.MAX_VALUE, 1, 0}};
         for (int[] w : wrong) {
-            Due.refused("relays " + Arrays.toString(w), house, () -> house.relays(w[0], w[1], w[2], w[3]), OUTSIDE);
+            Due.is("relays " + Arrays.toString(w), house.relays(w[0], w[1], w[2], w[3]), OUTSIDE);
         }
     }
 
@@ -300,7 +304,6 @@ public final class Promises17To23Test {
     }
 
     private static void promise23() {
-        SilenceCount house = new SilenceCount();
         int[] ways = new int[201];
         int[] fewest = new int[201];
         Arrays.fill(fewest, NONE);
@@ -316,12 +319,14 @@ public final class Promises17To23Test {
             }
         }
         for (int n = 0; n <= 200; n++) {
+            SilenceCount house = new SilenceCount();
             Due.is("beads, fewest of " + n, house.beads(n, 0), fewest[n]);
             Due.is("beads, ways of " + n, house.beads(n, 1), ways[n]);
         }
-        Due.refused("beads -1", house, () -> house.beads(-1, 0), OUTSIDE);
-        Due.refused("beads 201", house, () -> house.beads(201, 1), OUTSIDE);
-        Due.refused("what 2", house, () -> house.beads(1, 2), OUTSIDE);
-        Due.refused("what -1", house, () -> house.beads(1, -1), OUTSIDE);
+        SilenceCount house = new SilenceCount();
+        Due.is("beads -1", house.beads(-1, 0), OUTSIDE);
+        Due.is("beads 201", house.beads(201, 1), OUTSIDE);
+        Due.is("what 2", house.beads(1, 2), OUTSIDE);
+        Due.is("what -1", house.beads(1, -1), OUTSIDE);
     }
 }

@@ -26,18 +26,18 @@ public final class Promises24To32Test {
         Due.is("seen", house.seen(0, 0, true), 1);
         Due.is("seen, far", house.seen(2, 99, false), 2);
         for (int monk : new int[] {3, 8, -1, 32, Integer.MIN_VALUE, Integer.MAX_VALUE}) {
-            Due.refused("seen of " + monk, house, () -> house.seen(monk, 100, true), UNKNOWN);
+            Due.is("seen of " + monk, house.seen(monk, 100, true), UNKNOWN);
         }
-        Due.refused("breaths -1", house, () -> house.seen(0, -1, true), OUTSIDE);
-        Due.refused("breaths 100", house, () -> house.seen(0, 100, true), OUTSIDE);
+        Due.is("breaths -1", house.seen(0, -1, true), OUTSIDE);
+        Due.is("breaths 100", house.seen(0, 100, true), OUTSIDE);
         Told.pass(house, "AB");
         Due.is("who sleeps is seen, too", house.seen(0, 0, false), 3);
         for (int i = 4; i <= 8; i++) {
             Due.is("seen", house.seen(1, i, false), i);
         }
-        Due.refused("a ninth", house, () -> house.seen(1, 0, false), FULL);
-        Due.refused("OUTSIDE goes first", house, () -> house.seen(1, 100, false), OUTSIDE);
-        Due.refused("UNKNOWN goes first", house, () -> house.seen(7, 0, false), UNKNOWN);
+        Due.is("a ninth", house.seen(1, 0, false), FULL);
+        Due.is("OUTSIDE goes first", house.seen(1, 100, false), OUTSIDE);
+        Due.is("UNKNOWN goes first", house.seen(7, 0, false), UNKNOWN);
         Due.is("sights", house.told(5), 8);
     }
 
@@ -110,10 +110,10 @@ public final class Promises24To32Test {
 
     private static void promise26Refused() {
         SilenceCount house = Told.three();
-        Due.refused("law 5", house, () -> house.skips(5, 0), OUTSIDE);
-        Due.refused("law -1", house, () -> house.skips(-1, 0), OUTSIDE);
-        Due.refused("what 3", house, () -> house.skips(0, 3), OUTSIDE);
-        Due.refused("what -1", house, () -> house.skips(0, -1), OUTSIDE);
+        Due.is("law 5", house.skips(5, 0), OUTSIDE);
+        Due.is("law -1", house.skips(-1, 0), OUTSIDE);
+        Due.is("what 3", house.skips(0, 3), OUTSIDE);
+        Due.is("what -1", house.skips(0, -1), OUTSIDE);
     }
 
     private static void promise27() {
@@ -144,12 +144,12 @@ public final class Promises24To32Test {
         askIs(house, 4, 0, 4, 8);
         house.leave(4);
         askIs(house, 0, 0, NONE, NONE);
-        Due.refused("law 5", house, () -> house.ask(5, 0, 0), OUTSIDE);
-        Due.refused("law -1", house, () -> house.ask(-1, 0, 0), OUTSIDE);
-        Due.refused("b 100", house, () -> house.ask(0, 100, 0), OUTSIDE);
-        Due.refused("b -1", house, () -> house.ask(0, -1, 0), OUTSIDE);
-        Due.refused("what 2", house, () -> house.ask(0, 0, 2), OUTSIDE);
-        Due.refused("what -1", house, () -> house.ask(0, 0, -1), OUTSIDE);
+        Due.is("law 5", house.ask(5, 0, 0), OUTSIDE);
+        Due.is("law -1", house.ask(-1, 0, 0), OUTSIDE);
+        Due.is("b 100", house.ask(0, 100, 0), OUTSIDE);
+        Due.is("b -1", house.ask(0, -1, 0), OUTSIDE);
+        Due.is("what 2", house.ask(0, 0, 2), OUTSIDE);
+        Due.is("what -1", house.ask(0, 0, -1), OUTSIDE);
     }
 
     private static void askIs(SilenceCount house, int law, int b, int monk, int many) {
@@ -160,16 +160,16 @@ public final class Promises24To32Test {
     private static void promise28() {
         SilenceCount house = new SilenceCount();
         long lost = SilenceCount.LOST;
-        Due.refused("nobody is awake", house, () -> house.bees(1, 1, 0, 0), lost + STATE);
+        Due.is("nobody is awake", house.bees(1, 1, 0, 0), lost + STATE);
         int[][] wrong = {{-1, 0, 0, 0}, {11, 0, 0, 0}, {0, -1, 0, 0}, {0, 11, 0, 0}, {0, 0, -1, 0}, {0, 0, 2, 0},
             {0, 0, 0, -1}, {0, 0, 0, 2}, {Integer.MAX_VALUE, 0, 0, 0}};
         for (int[] w : wrong) {
             String call = "bees " + Arrays.toString(w);
-            Due.refused(call + ", nobody awake", house, () -> house.bees(w[0], w[1], w[2], w[3]), lost + OUTSIDE);
+            Due.is(call + ", nobody awake", house.bees(w[0], w[1], w[2], w[3]), lost + OUTSIDE);
         }
         house.monk(2, 1000000, 1);
         for (int[] w : wrong) {
-            Due.refused("bees " + Arrays.toString(w), house, () -> house.bees(w[0], w[1], w[2], w[3]), lost + OUTSIDE);
+            Due.is("bees " + Arrays.toString(w), house.bees(w[0], w[1], w[2], w[3]), lost + OUTSIDE);
         }
         beesAre(house, 0, 5, 1000000, 1, 0, 1);
         beesAre(house, 10, 0, 999990, 1, 0, 1);
@@ -181,7 +181,7 @@ public final class Promises24To32Test {
         Told.pass(house, "AC");
         beesAre(house, 1, 0, 500000, 1, 0, 1);
         house.leave(2);
-        Due.refused("only a sleeper", house, () -> house.bees(1, 1, 0, 0), lost + STATE);
+        Due.is("only a sleeper", house.bees(1, 1, 0, 0), lost + STATE);
     }
 
     private static void beesAre(SilenceCount house, int m, int t, long mean, long meanBy, long at0, long at0By) {
@@ -195,10 +195,10 @@ public final class Promises24To32Test {
         int[][] cases = {{1, 1, 1}, {1, 0, 9}, {5, 5, 2}, {7, 3, 9}, {40, 33, 4}, {1000000, 77, 9},
             {1000000, 1000000, 1}};
         for (int[] c : cases) {
-            SilenceCount house = new SilenceCount();
-            house.set(0, c[0]);
-            house.monk(6, c[1], c[2]);
             for (int m = 0; m <= 10; m++) {
+                SilenceCount house = new SilenceCount();
+                house.set(0, c[0]);
+                house.monk(6, c[1], c[2]);
                 for (int t = 0; t <= 10; t++) {
                     BigInteger mean = BigInteger.ZERO;
                     BigInteger at0 = BigInteger.ZERO;
@@ -235,12 +235,12 @@ public final class Promises24To32Test {
         yearIs(house, 0, 3, 299, 4, 0);
         Due.isTrue("nothing is done in fact", before.equals(Told.all(house)));
         yearIs(new SilenceCount(), 9999, 99, 0, 0, 0);
-        Due.refused("seed -1", house, () -> house.year(-1, 1, 0), OUTSIDE);
-        Due.refused("seed 10000", house, () -> house.year(10000, 1, 0), OUTSIDE);
-        Due.refused("m 0", house, () -> house.year(0, 0, 0), OUTSIDE);
-        Due.refused("m 100", house, () -> house.year(0, 100, 0), OUTSIDE);
-        Due.refused("what 3", house, () -> house.year(0, 1, 3), OUTSIDE);
-        Due.refused("what -1", house, () -> house.year(0, 1, -1), OUTSIDE);
+        Due.is("seed -1", house.year(-1, 1, 0), OUTSIDE);
+        Due.is("seed 10000", house.year(10000, 1, 0), OUTSIDE);
+        Due.is("m 0", house.year(0, 0, 0), OUTSIDE);
+        Due.is("m 100", house.year(0, 100, 0), OUTSIDE);
+        Due.is("what 3", house.year(0, 1, 3), OUTSIDE);
+        Due.is("what -1", house.year(0, 1, -1), OUTSIDE);
     }
 
     private static void yearIs(SilenceCount house, int seed, int m, int counts, int awake, int acts) {
@@ -299,8 +299,8 @@ public final class Promises24To32Test {
         Due.is("image", house.image(0), 1);
         Due.is("image again", house.image(0), 1);
         Due.is("image 1", house.image(1), 1);
-        Due.refused("image -1", house, () -> house.image(-1), OUTSIDE);
-        Due.refused("image 2", house, () -> house.image(2), OUTSIDE);
+        Due.is("image -1", house.image(-1), OUTSIDE);
+        Due.is("image 2", house.image(2), OUTSIDE);
         house.monk(0, 7, 7);
         house.image(0);
         house.leave(0);
@@ -312,9 +312,9 @@ public final class Promises24To32Test {
 
     private static void promise31() {
         SilenceCount house = Told.three();
-        Due.refused("not kept", house, () -> house.restore(1), STATE);
-        Due.refused("restore -1", house, () -> house.restore(-1), OUTSIDE);
-        Due.refused("restore 2", house, () -> house.restore(2), OUTSIDE);
+        Due.is("not kept", house.restore(1), STATE);
+        Due.is("restore -1", house.restore(-1), OUTSIDE);
+        Due.is("restore 2", house.restore(2), OUTSIDE);
         Told.pass(house, "AB");
         house.set(0, 500);
         house.set(1, 42);
@@ -322,7 +322,7 @@ public final class Promises24To32Test {
         house.seen(0, 0, false);
         house.image(1);
         String kept = Told.all(house);
-        Due.refused("the other one is not kept", house, () -> house.restore(0), STATE);
+        Due.is("the other one is not kept", house.restore(0), STATE);
         house.forget();
         house.seen(2, 9, false);
         house.monk(5, 400, 9);
@@ -368,7 +368,7 @@ public final class Promises24To32Test {
         Due.is("pace of a sleeper", house.told(17), 9);
         for (int what : new int[] {-1, 6, 7, 8, 9, 13, 16, 18, 19, 42, Integer.MIN_VALUE, Integer.MIN_VALUE + 9,
             Integer.MAX_VALUE}) {
-            Due.refused("told " + what, house, () -> house.told(what), OUTSIDE);
+            Due.is("told " + what, house.told(what), OUTSIDE);
         }
         house.leave(0);
         Due.is("pace of who left", house.told(10), OUTSIDE);
