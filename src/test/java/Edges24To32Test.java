@@ -378,7 +378,7 @@ public final class Edges24To32Test {
             .refuses("nobody there", house -> house.bees(1, 1, 0, 0), LOST + STATE)
             .refuses("nobody there, lower", house -> house.bees(1, 1, 0, 1), LOST + STATE)
             .refuses("nobody there, m 0", house -> house.bees(0, 0, 1, 0), LOST + STATE);
-        Sentence.of(28, "STATE: nobody is AWAKE", Houses::asleep)
+        Sentence.of(28, "STATE: nobody is AWAKE", Houses::asleepAndRich)
             .refuses("only sleepers", house -> house.bees(1, 1, 0, 0), LOST + STATE)
             .refuses("only sleepers, that he is at 0", house -> house.bees(10, 10, 1, 1), LOST + STATE)
             .answers("one awake", house -> house.monk(7, 3, 1) * 0 + house.bees(1, 0, 0, 0), 2);

@@ -92,7 +92,7 @@ public final class EdgesOfTermsTest {
             .refuses("set(2, 1)", house -> house.set(2, 1), OUTSIDE)
             .refuses("restore(2)", house -> house.restore(2), OUTSIDE)
             .refuses("restore(-1)", house -> house.restore(-1), OUTSIDE);
-        Sentence.ofTerms("the first of these that fits: OUTSIDE, STATE", Houses::asleep)
+        Sentence.ofTerms("the first of these that fits: OUTSIDE, STATE", Houses::asleepAndRich)
             .refuses("bees(11, 0, 0, 0)", house -> house.bees(11, 0, 0, 0), LOST + OUTSIDE)
             .refuses("bees(0, 11, 0, 0)", house -> house.bees(0, 11, 0, 0), LOST + OUTSIDE)
             .refuses("bees(0, 0, 2, 0)", house -> house.bees(0, 0, 2, 0), LOST + OUTSIDE)

@@ -86,14 +86,32 @@ final class Houses {
         return house;
     }
 
-    /** A at 1000 by 1, B at 1000 by 2, and a PAD of 60 signs. */
-    static SilenceCount fullPad() {
-        return saying(".!".repeat(28) + "AkBA", 1000, 1, 1000, 2);
+    /** The two of asleep, with something on the PAD, a SIGHT and an IMAGE. */
+    static SilenceCount asleepAndRich() {
+        SilenceCount house = asleep();
+        house.image(1);
+        house.seen(0, 3, false);
+        Told.say(house, "Aw.");
+        return house;
     }
 
-    /** A at 64, B at 66, both by 1, and 8 SIGHTS, which by LAW 4 (powers of 2) leave one world, of nobody's skip. */
+    /** A at 1000 by 1, B at 1000 by 2, C asleep, and a PAD of 60 signs. */
+    static SilenceCount fullPad() {
+        SilenceCount house = behind("CA", 1000, 1, 1000, 2, 1000, 3);
+        house.seen(1, 1, false);
+        Told.say(house, ".!".repeat(28) + "AkBA");
+        return house;
+    }
+
+    /**
+     * A at 64, B at 66, both by 1, H asleep, and 8 SIGHTS, which by LAW 4 (powers of 2) leave one world, of nobody's
+     * skip.
+     */
     static SilenceCount fullSights() {
         SilenceCount house = of(64, 1, 66, 1);
+        house.monk(7, 64, 1);
+        Told.pass(house, "HA");
+        Told.say(house, "..");
         int[] breaths = {0, 2, 1, 0, 32, 34, 2, 3};
         for (int i = 0; i < 8; i++) {
             boolean bowed = i < 2 || i == 4 || i == 5;

@@ -1,42 +1,62 @@
-/** Reads out, as one text, what a house tells of itself, and makes houses in few words. */
+/** Reads out, as one text, what a house tells of itself, and writes on its pad. */
 final class Told {
+    private static final int NONE = -6;
+
     private Told() {
     }
 
+    /** By calls that are not refused, as it is used to look at what refused calls change. */
     static String all(SilenceCount house) {
-        StringBuilder text = new StringBuilder();
-        for (int what = -1; what < 19; what++) {
-            text.append(house.told(what)).append(' ');
+        StringBuilder text = new StringBuilder("told");
+        for (int what = 0; what < 6; what++) {
+            text.append(' ').append(house.told(what));
         }
         for (int monk = 0; monk < 8; monk++) {
-            text.append(house.state(monk, 0)).append('/').append(house.state(monk, 1)).append(' ');
+            if (isThere(house, monk)) {
+                text.append(", ").append(monk).append(" by ").append(house.told(10 + monk)).append(" at ");
+                text.append(house.state(monk, 0)).append('/').append(house.state(monk, 1));
+            }
         }
-        text.append(house.fault()).append(' ').append(house.judge(0)).append(' ').append(house.judge(1));
         for (int law = 0; law < 5; law++) {
-            text.append(' ').append(house.skips(law, 0)).append('/').append(house.skips(law, 1));
+            text.append(", skips ").append(house.skips(law, 0)).append('/').append(house.skips(law, 1));
         }
-        return text.toString();
+        return text.append(", fault ").append(house.fault()).toString();
     }
 
     /** All that and what the calls answer that only look; then what DONE, and each IMAGE, make of it. */
     static String toTheEnd(SilenceCount house) {
         StringBuilder text = new StringBuilder(all(house));
-        for (int monk = 0; monk < 8; monk++) {
-            text.append(' ').append(house.behind(monk, 0)).append('/').append(house.behind(monk, 1));
-            text.append('/').append(house.ends(monk));
-        }
-        text.append(" breaths ").append(house.breaths(0)).append('/').append(house.breaths(1));
-        text.append(" noticed ").append(house.noticed());
         for (int law = 0; law < 5; law++) {
-            text.append(" ask ").append(house.ask(law, 0, 0)).append('/').append(house.ask(law, 2, 1));
+            text.append(", ask ").append(house.ask(law, 0, 0)).append('/').append(house.ask(law, 2, 1));
         }
-        text.append(" year ").append(house.year(4711, 99, 0));
-        text.append(" done ").append(house.done()).append(": ").append(all(house));
-        text.append(" wiped ").append(house.wipe());
+        text.append(", year ").append(house.year(4711, 99, 0)).append(", ends ").append(house.ends(-1));
+        if (house.fault() == NONE) {
+            text.append(", judged ").append(house.judge(0)).append('/').append(house.judge(1));
+            appendHours(text, house);
+        }
+        text.append(", wiped ").append(house.wipe());
         for (int image = 0; image < 2; image++) {
-            text.append(" image ").append(house.restore(image)).append(": ").append(all(house));
+            text.append("; image ").append(house.restore(image)).append(": ").append(all(house));
         }
         return text.toString();
+    }
+
+    private static void appendHours(StringBuilder text, SilenceCount house) {
+        if (house.judge(0) != NONE) {
+            return;
+        }
+        for (int monk = 0; monk < 8; monk++) {
+            if (isThere(house, monk)) {
+                text.append(", behind ").append(house.behind(monk, 0)).append('/').append(house.behind(monk, 1));
+            }
+        }
+        text.append(", breaths ").append(house.breaths(0)).append('/').append(house.breaths(1));
+        text.append(", noticed ").append(house.noticed());
+        text.append("; done ").append(house.done()).append(": ").append(all(house));
+    }
+
+    private static boolean isThere(SilenceCount house, int monk) {
+        return (house.told(1) >> monk & 1) == 1;
     }
 
     static void say(SilenceCount house, String signs) {
