@@ -30,6 +30,7 @@ public final class Edges24To32Test {
         promise28AtNought();
         promise28TheGreatest();
         promise29Seed();
+        promise29LeftOver();
         promise29Acts();
         promise29What();
         promise29NobodyThere();
@@ -420,6 +421,16 @@ public final class Edges24To32Test {
             .refuses("seed 10000", house -> house.year(10000, 1, 0), OUTSIDE)
             .refuses("the least seed", house -> house.year(LEAST, 1, 0), OUTSIDE)
             .refuses("the greatest seed", house -> house.year(GREATEST, 1, 0), OUTSIDE);
+    }
+
+    private static void promise29LeftOver() {
+        Sentence.of(29, "(75 x and 74) left over by 65537", () -> Houses.of(100, 1, 200, 1))
+            // 65474 is below 65537 and leaves 2 by 8, 8184 leaves 0: A coughs.
+            .answers("seed 872, COUNTS", house -> house.year(872, 1, 0), 303)
+            .answers("seed 872, AWAKE", house -> house.year(872, 1, 1), 2)
+            // 65549 leaves 12, that is 4 by 8, 1 by 8: B goes to sleep, his count is handed over to A.
+            .answers("seed 873, COUNTS", house -> house.year(873, 1, 0), 350)
+            .answers("seed 873, AWAKE", house -> house.year(873, 1, 1), 1);
     }
 
     private static void promise29Acts() {
